@@ -1,0 +1,66 @@
+/** A hand that works an object: lines and keys as texts. */
+final class Hand {
+    private Hand() {
+    }
+
+    static ModalKeys on(String line) {
+        ModalKeys x = new ModalKeys();
+        tell(x, line);
+        return x;
+    }
+
+    static void tell(ModalKeys x, String line) {
+        for (int i = 0; i < line.length(); i++) {
+            x.type(line.charAt(i));
+        }
+        x.line();
+    }
+
+    /** Strikes keys one by one; the answer of the last. */
+    static int strike(ModalKeys x, String keys) {
+        int answer = 0;
+        for (int i = 0; i < keys.length(); i++) {
+            answer = x.key(keys.charAt(i));
+        }
+        return answer;
+    }
+
+    static ModalKeys after(String line, String keys) {
+        ModalKeys x = on(line);
+        strike(x, keys);
+        return x;
+    }
+
+    static String lineOf(ModalKeys x) {
+        StringBuilder b = new StringBuilder();
+        for (int k = 0; x.letter(k) >= 0; k++) {
+            b.append((char) x.letter(k));
+        }
+        return b.toString();
+    }
+
+    static String storeOf(ModalKeys x) {
+        StringBuilder b = new StringBuilder();
+        for (int k = 0; x.store(k) >= 0; k++) {
+            b.append((char) x.store(k));
+        }
+        return b.toString();
+    }
+
+    static int cursor(ModalKeys x) {
+        return x.count(1);
+    }
+
+    /** The line with the cursor's place ahead of a bar, and the store behind it: "abc|1|st". */
+    static String look(ModalKeys x) {
+        return lineOf(x) + "|" + cursor(x) + "|" + storeOf(x);
+    }
+
+    /** Puts a text as the items of a new row of a lane. */
+    static void write(ModalKeys x, int sheet, int lane, String text) {
+        x.sheet(sheet, lane, text.length());
+        for (int i = 0; i < text.length(); i++) {
+            x.item(sheet, lane, i, text.charAt(i));
+        }
+    }
+}
