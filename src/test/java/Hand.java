@@ -56,6 +56,14 @@ final class Hand {
         return lineOf(x) + "|" + cursor(x) + "|" + storeOf(x);
     }
 
+    static String counts(ModalKeys x) {
+        StringBuilder b = new StringBuilder();
+        for (int what = 0; what <= 8; what++) {
+            b.append(x.count(what)).append(' ');
+        }
+        return b.toString();
+    }
+
     /** Puts a text as the items of a new row of a lane. */
     static void write(ModalKeys x, int sheet, int lane, String text) {
         x.sheet(sheet, lane, text.length());

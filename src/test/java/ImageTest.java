@@ -26,14 +26,14 @@ public final class ImageTest {
         x.price(3, 4);
         x.image();
         String look = Hand.look(x);
-        String counts = counts(x);
+        String counts = Hand.counts(x);
         Hand.strike(x, "0dwmaxyymbylPiq!uuuuuu0dd");
         x.price(3, 9);
         x.price(1, 2);
         for (int time = 1; time <= 2; time++) {
             CHECK.due("17 restore()", x.restore(), 1);
             CHECK.due("17 the line, the cursor, the store", Hand.look(x), look);
-            CHECK.due("17 the counts", counts(x), counts);
+            CHECK.due("17 the counts", Hand.counts(x), counts);
             CHECK.due("17 mark(0)", x.mark(0), 4);
             CHECK.due("17 mark(1)", x.mark(1), ModalKeys.NONE);
             CHECK.due("17 price of $", x.price(3, 4), ModalKeys.NOT);
@@ -43,16 +43,10 @@ public final class ImageTest {
             Hand.strike(x, "9u");
             CHECK.due("17 what can be undone", Hand.look(x), "one two three|4|tw");
             Hand.tell(x, "another");
+            Hand.strike(x, "3x~~");
+            Hand.tell(x, "third");
             CHECK.due("17 nothing to be undone then", x.count(6), 0);
         }
-    }
-
-    private static String counts(ModalKeys x) {
-        StringBuilder b = new StringBuilder();
-        for (int what = 0; what <= 8; what++) {
-            b.append(x.count(what)).append(' ');
-        }
-        return b.toString();
     }
 
     private static void aPendingCommandComesBack() {
@@ -65,8 +59,8 @@ public final class ImageTest {
         CHECK.due("17 whole", x.key('l'), 0);
         CHECK.due("17 both numbers", Hand.look(x), "efgh|0|abcd");
         CHECK.due("17 all its keys", x.count(8), 4);
-        String[] begun = {"3", "df", "r", "m", "dt", "ya", "ci", "'", "y'"};
-        String[] rest = {"x", "c", "z", "a", "c", "w", "w", "a", "a"};
+        String[] begun = {"3", "df", "r", "m", "dt", "ya", "ci", "'", "y'", "d2"};
+        String[] rest = {"x", "c", "z", "a", "c", "w", "w", "a", "a", "l"};
         for (int i = 0; i < begun.length; i++) {
             ModalKeys straight = Hand.after("ab cd", "lma0" + begun[i] + rest[i]);
             ModalKeys round = Hand.after("ab cd", "lma0" + begun[i]);
@@ -74,7 +68,7 @@ public final class ImageTest {
             Hand.tell(round, "zzz");
             round.restore();
             Hand.strike(round, rest[i]);
-            CHECK.due("17 " + begun[i] + " goes on", Hand.look(round) + counts(round), Hand.look(straight) + counts(straight));
+            CHECK.due("17 " + begun[i] + " goes on", Hand.look(round) + Hand.counts(round), Hand.look(straight) + Hand.counts(straight));
         }
     }
 

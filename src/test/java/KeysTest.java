@@ -76,6 +76,7 @@ public final class KeysTest {
         answers("ab", "dx", ModalKeys.NOT);
         answers("ab", "d!", ModalKeys.NOT);
         answers("ab", "3q", ModalKeys.NOT);
+        answers("ab", "yldibp", 0);
         makes("abcd", "3qx", "bcd|0|a");
         makes("abcd", "2d3qx", "bcd|0|a");
     }
@@ -147,6 +148,7 @@ public final class KeysTest {
         makes("one two", "dh", "one two|0|");
         makes("one two", "dd", "|0|one two");
         makes("one two", "wd7d", "|0|one two");
+        makes("one two", "wldd", "|0|one two");
         makes("one two", "wyy", "one two|0|one two");
         makes("one two", "$yb", "one two|4|tw");
         makes("one two", "wye", "one two|4|two");
@@ -297,6 +299,8 @@ public final class KeysTest {
         makes("abcd", "$i!u", "abcd|3|");
         makes("abcdefghijklm", "xxxxxxxxxx9u", "cdefghijklm|0|j");
         makes("abcdefghijklm", "xxxxxxxxxxuuuuuuuuu", "cdefghijklm|0|j");
+        answers("abcd", "xu", 0);
+        answers("abcd", "x9u", 0);
         answers("abcd", "u", ModalKeys.NOT);
         answers("abcd", "xuu", ModalKeys.NOT);
         answers("abcd", "dhu", ModalKeys.NOT);
@@ -341,7 +345,8 @@ public final class KeysTest {
         ModalKeys x = Hand.after("", thirty + "..");
         CHECK.due("8 . fills the line", x.count(0), 60);
         CHECK.due("8 . that was FULL in it is done", x.count(2), 0);
-        CHECK.due("8 . is struck by its keys", x.count(6), 3);
+        CHECK.due("8 . can be undone, though it was FULL", x.count(6), 3);
+        CHECK.due("8 . leaves all keys of the latest change", x.count(8), 30);
         makes("abcd", "xi.!.", "..bcd|0|a");
         makes("abcd", "r.l.", "..cd|1|");
     }
@@ -366,10 +371,10 @@ public final class KeysTest {
         for (String keys : failing) {
             ModalKeys x = Hand.after("ab cd", "xlmay2l");
             String look = Hand.look(x);
-            String counts = counts(x);
+            String counts = Hand.counts(x);
             CHECK.due("8 " + keys + " fails", firstFailure(x, keys), ModalKeys.NOT);
             CHECK.due("8 " + keys + " leaves the line", Hand.look(x), look);
-            CHECK.due("8 " + keys + " leaves the counts", counts(x), counts);
+            CHECK.due("8 " + keys + " leaves the counts", Hand.counts(x), counts);
         }
     }
 
@@ -379,14 +384,6 @@ public final class KeysTest {
             answer = x.key(keys.charAt(i));
         }
         return answer;
-    }
-
-    private static String counts(ModalKeys x) {
-        StringBuilder b = new StringBuilder();
-        for (int what = 0; what <= 8; what++) {
-            b.append(x.count(what)).append(' ');
-        }
-        return b.toString();
     }
 
     private static void promise9() {

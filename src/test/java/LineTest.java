@@ -154,8 +154,8 @@ public final class LineTest {
     }
 
     private static void wordsAreRowsOfLettersAndFigures() {
-        String[] lines = {"", " ", "a", "a b", "a,b", "aZ9", "  a  ", "@[`{/:", "9.9", "a_b", "Z z 0"};
-        int[] due = {0, 0, 1, 2, 2, 1, 1, 0, 2, 2, 3};
+        String[] lines = {"", " ", "a", "a b", "a,b", "aZ9", "  a  ", "@[`{/:", "9.9", "a_b", "Z z 0", "A z 9"};
+        int[] due = {0, 0, 1, 2, 2, 1, 1, 0, 2, 2, 3, 3};
         for (int i = 0; i < lines.length; i++) {
             CHECK.due("7 words of \"" + lines[i] + "\"", Hand.on(lines[i]).count(7), due[i]);
         }

@@ -66,6 +66,10 @@ public final class SheetsTest {
         CHECK.due("18 FULL and FAILED", full.play(1, 0, 0, 6), 3);
         CHECK.due("18 sixty", full.count(0), 60);
         CHECK.due("18 24 items", playOf24(), 0);
+        ModalKeys edges = Hand.on("aB");
+        Hand.write(edges, 1, 0, " ~");
+        CHECK.due("18 the first and the last key", edges.play(1, 0, 0, 2), 1);
+        CHECK.due("18 were struck", Hand.lineOf(edges), "AB");
     }
 
     private static int playOf24() {
@@ -84,6 +88,8 @@ public final class SheetsTest {
             CHECK.due("19 dw was struck", Hand.look(x), "~ xx dw|0|a");
             CHECK.due("19 another lane", x.film(0, 1, 2, (lane + 1) % 4, 0), ModalKeys.CAST);
         }
+        CHECK.due("19 each letter at its place", filmed(1, 3, 2), "..bcd..");
+        CHECK.due("19 all of a row", filmed(0, 7, 0), "abcdefg");
         ModalKeys x = Hand.on("abcdef");
         x.sheet(0, 0, 3);
         CHECK.due("19 n 0", x.film(0, 0, 0, 0, 0), ModalKeys.BAD);
@@ -106,6 +112,17 @@ public final class SheetsTest {
         CHECK.due("19 none of them came", x.play(0, 0, 1, 1), ModalKeys.NOT);
         CHECK.due("19 just so many", x.film(3, 3, 0, 0, 0), 3);
         CHECK.due("19 the line stays", Hand.look(x), "abcdef|0|");
+    }
+
+    /** A row of dots after a film to it, told by inserting it. */
+    private static String filmed(int place, int n, int i) {
+        ModalKeys x = Hand.on("abcdefg");
+        Hand.write(x, 1, 2, ".......");
+        x.film(place, n, 1, 2, i);
+        x.line();
+        x.key('i');
+        x.play(1, 2, 0, 7);
+        return Hand.lineOf(x);
     }
 
     private static void promise20() {
