@@ -4,6 +4,7 @@ public final class LineTest {
     private static final String SIXTY = "abcdefghijklmnopqrstuvwxyzabcdefghijklmnopqrstuvwxyz01234567";
 
     public static void main(String[] args) {
+        constants();
         promise1();
         promise2();
         promise3();
@@ -13,6 +14,15 @@ public final class LineTest {
         promise7();
         wordsAreRowsOfLettersAndFigures();
         CHECK.end();
+    }
+
+    private static void constants() {
+        int[] are = {ModalKeys.BAD, ModalKeys.NOT, ModalKeys.FULL, ModalKeys.NONE,
+            ModalKeys.NULL, ModalKeys.CAST, ModalKeys.INDEX, ModalKeys.SIZE};
+        int[] due = {-1, -2, -3, -4, -11, -12, -13, -14};
+        for (int i = 0; i < due.length; i++) {
+            CHECK.due("constant " + i, are[i], due[i]);
+        }
     }
 
     private static void promise1() {
