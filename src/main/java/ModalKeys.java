@@ -788,8 +788,9 @@ public final class ModalKeys {
         }
 
         private int typeIn(int struck, boolean repeated) {
+            // A letter that finds the line full was struck all the same, so it is a key of the change.
+            command.keys.add(struck);
             if (struck == '!') {
-                command.keys.add(struck);
                 typing = false;
                 text.cursor = Math.max(0, text.cursor - 1);
                 remember(repeated);
@@ -799,7 +800,6 @@ public final class ModalKeys {
             if (text.length >= MOST_LETTERS) {
                 return FULL;
             }
-            command.keys.add(struck);
             text.makeRoom(text.cursor, 1);
             text.letters[text.cursor] = struck;
             text.cursor++;

@@ -7,6 +7,7 @@ public final class ImageTest {
         allComesBack();
         aPendingCommandComesBack();
         whatIsInsertedComesBack();
+        whatWasFullComesBack();
         sheetsAndTapeStay();
         theLatestImageCounts();
         CHECK.end();
@@ -84,6 +85,16 @@ public final class ImageTest {
         CHECK.due("17 its keys", x.count(8), 6);
         Hand.strike(x, "u");
         CHECK.due("17 as ahead of the command", Hand.look(x), "abc|1|bc");
+    }
+
+    private static void whatWasFullComesBack() {
+        ModalKeys x = Hand.after("a", "yl59piqr");
+        x.image();
+        Hand.strike(x, "qrs!");
+        CHECK.due("16 FULL ones behind the image", x.count(8), 7);
+        x.restore();
+        Hand.strike(x, "!");
+        CHECK.due("17 FULL ones ahead of the image alone", x.count(8), 4);
     }
 
     private static void sheetsAndTapeStay() {

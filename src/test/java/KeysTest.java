@@ -16,6 +16,7 @@ public final class KeysTest {
         casesSwapped();
         putsIn();
         inserts();
+        lettersThatAreFull();
         undone();
         onceMore();
         marks();
@@ -280,10 +281,38 @@ public final class KeysTest {
         CHECK.due("8 the 61st", x.key('q'), ModalKeys.FULL);
         CHECK.due("8 one still inserts", x.count(2), 1);
         CHECK.due("8 !", x.key('!'), 0);
-        CHECK.due("8 what was FULL is no key of it", x.count(8), 3);
+        CHECK.due("8 what was FULL is a key of it", x.count(8), 4);
         CHECK.due("8 sixty", x.count(0), 60);
         CHECK.due("8 i! is a change", Hand.after("abc", "i!").count(6), 1);
         CHECK.due("8 ch! is a change", Hand.after("abc", "ch!").count(8), 3);
+    }
+
+    /** They are keys of the change as all others are, also for . */
+    private static void lettersThatAreFull() {
+        CHECK.due("8 only FULL ones", Hand.after(SIXTY, "iqqq!").count(8), 5);
+        CHECK.due("8 FULL ones behind a number", Hand.after(SIXTY, "12iq!").count(8), 5);
+        CHECK.due("8 FULL ones of c", Hand.after(SIXTY, "clzqq!").count(8), 6);
+        CHECK.due("8 FULL ones, till ! those of the change ahead", Hand.after(SIXTY, "xpiqqq").count(8), 1);
+        CHECK.due("8 thirty with FULL ones", Hand.after(SIXTY, "i" + "q".repeat(28) + "!").count(8), 30);
+        CHECK.due("8 31 with FULL ones", Hand.after(SIXTY, "i" + "q".repeat(29) + "!").count(8), 31);
+        CHECK.due("8 more than 31 with FULL ones", Hand.after(SIXTY, "i" + "q".repeat(50) + "!").count(8), 31);
+        CHECK.due("8 a key that is BAD is none of it", badWithin(), 4);
+        makes(SIXTY, "iqrs!u", SIXTY + "|0|");
+        makes("abc", "yl57piqrs!uu.", "qrsabc|2|a");
+        makes("abc", "yl57pclxyz!uu.", "xyzbc|2|a");
+        answers(SIXTY, "i" + "q".repeat(28) + "!.", 0);
+        answers(SIXTY, "i" + "q".repeat(29) + "!.", ModalKeys.NOT);
+        ModalKeys x = Hand.after(SIXTY, "iqrs!.");
+        CHECK.due("8 . of FULL ones leaves their keys", x.count(8), 5);
+        CHECK.due("8 . of FULL ones can be undone", x.count(6), 2);
+    }
+
+    private static int badWithin() {
+        ModalKeys x = Hand.after(SIXTY, "iqr");
+        x.key(31);
+        x.key(127);
+        x.key('!');
+        return x.count(8);
     }
 
     private static void undone() {

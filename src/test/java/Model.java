@@ -65,8 +65,8 @@ final class Model {
     }
 
     private int insert(char c) {
+        typed += c;
         if (c == '!') {
-            typed += c;
             inserts = false;
             cursor = Math.max(0, cursor - 1);
             changed();
@@ -75,7 +75,6 @@ final class Model {
         if (line.length() == 60) {
             return -3;
         }
-        typed += c;
         line = line.substring(0, cursor) + c + line.substring(cursor);
         cursor++;
         return 2;

@@ -65,6 +65,7 @@ public final class SheetsTest {
         Hand.write(full, 1, 0, "Aabc!q");
         CHECK.due("18 FULL and FAILED", full.play(1, 0, 0, 6), 3);
         CHECK.due("18 sixty", full.count(0), 60);
+        CHECK.due("18 FULL ones are keys of the change", full.count(8), 5);
         CHECK.due("18 24 items", playOf24(), 0);
         ModalKeys edges = Hand.on("aB");
         Hand.write(edges, 1, 0, " ~");
