@@ -36,6 +36,10 @@ final class Check {
         return wrong;
     }
 
+    int made() {
+        return made;
+    }
+
     void end() {
         System.out.println(name + ": " + made + " checks, " + wrong + " wrong");
         if (wrong != 0) {

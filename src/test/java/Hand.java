@@ -1,5 +1,8 @@
 /** A hand that works an object: lines and keys as texts. */
 final class Hand {
+    /** A class that never ends a row must fail a test, not keep it from ending. */
+    private static final int MOST = 60;
+
     private Hand() {
     }
 
@@ -10,10 +13,17 @@ final class Hand {
     }
 
     static void tell(ModalKeys x, String line) {
-        for (int i = 0; i < line.length(); i++) {
-            x.type(line.charAt(i));
-        }
+        tape(x, line);
         x.line();
+    }
+
+    /** Types letters behind the tape; the answer of the last. */
+    static int tape(ModalKeys x, String letters) {
+        int answer = 0;
+        for (int i = 0; i < letters.length(); i++) {
+            answer = x.type(letters.charAt(i));
+        }
+        return answer;
     }
 
     /** Strikes keys one by one; the answer of the last. */
@@ -33,16 +43,16 @@ final class Hand {
 
     static String lineOf(ModalKeys x) {
         StringBuilder b = new StringBuilder();
-        for (int k = 0; x.letter(k) >= 0; k++) {
-            b.append((char) x.letter(k));
+        for (int c = x.letter(0); c >= 0 && b.length() <= MOST; c = x.letter(b.length())) {
+            b.append((char) c);
         }
         return b.toString();
     }
 
     static String storeOf(ModalKeys x) {
         StringBuilder b = new StringBuilder();
-        for (int k = 0; x.store(k) >= 0; k++) {
-            b.append((char) x.store(k));
+        for (int c = x.store(0); c >= 0 && b.length() <= MOST; c = x.store(b.length())) {
+            b.append((char) c);
         }
         return b.toString();
     }
