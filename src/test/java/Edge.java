@@ -23,7 +23,7 @@ final class Edge {
 
     void of(String promise, String words, Runnable test) {
         sentence = promise + " \"" + words + "\": ";
-        check.holds(sentence + "no such words in the document", document.contains(oneLine(words)));
+        check.holds(sentence + "no such words in the document", document.isEmpty() || document.contains(oneLine(words)));
         int made = check.made();
         test.run();
         check.holds(sentence + "has no test", check.made() > made);
@@ -99,9 +99,10 @@ final class Edge {
         check.end();
     }
 
+    /** Empty where there is no document: then the words can't be looked up, but what they ask is tested all the same. */
     private static String read() {
         try {
-            return Files.readString(DOCUMENT);
+            return Files.isReadable(DOCUMENT) ? Files.readString(DOCUMENT) : "";
         } catch (IOException e) {
             throw new UncheckedIOException("the document can't be read", e);
         }
