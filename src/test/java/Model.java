@@ -1,4 +1,5 @@
 import java.util.ArrayDeque;
+import java.util.Arrays;
 import java.util.Deque;
 import java.util.regex.Matcher;
 import java.util.regex.Pattern;
@@ -37,8 +38,58 @@ final class Model {
         inserts = false;
     }
 
+    Model copy() {
+        Model other = new Model();
+        other.line = line;
+        other.cursor = cursor;
+        other.store = store;
+        other.marks = marks.clone();
+        other.prices = prices.clone();
+        other.past = new ArrayDeque<>(past);
+        other.latest = latest;
+        other.pending = pending;
+        other.inserts = inserts;
+        other.typed = typed;
+        other.ahead = ahead;
+        return other;
+    }
+
     int last() {
         return Math.max(0, line.length() - 1);
+    }
+
+    int setOfMarks() {
+        int set = 0;
+        for (int k = 0; k < marks.length; k++) {
+            set |= marks[k] == null ? 0 : 1 << k;
+        }
+        return set;
+    }
+
+    int[] counts() {
+        int words = (int) Arrays.stream(line.split("[^a-zA-Z0-9]+")).filter(w -> !w.isEmpty()).count();
+        return new int[] {line.length(), cursor, inserts ? 1 : 0, pending.isEmpty() ? 0 : 1, store.length(), setOfMarks(),
+            past.size(), words, Math.min(31, latest.length())};
+    }
+
+    /** The motions, as deeds, that lead from the cursor to each place. */
+    int[] setsAtOnce() {
+        int[] sets = new int[last() + 1];
+        for (int motion = 0; motion < 7; motion++) {
+            sets[Math.min(last(), lead(motion, Math.min(cursor, last())))] |= 1 << motion;
+        }
+        return sets;
+    }
+
+    /** How many letters go by d with a motion n times, by trying it on another line. */
+    int wouldGo(int motion, int n) {
+        Model other = new Model();
+        other.line = line;
+        other.cursor = Math.min(cursor, last());
+        for (char c : (n + "d" + "hl0$wbe".charAt(motion)).toCharArray()) {
+            other.key(c);
+        }
+        return line.length() - other.line.length();
     }
 
     private String moment() {
@@ -342,6 +393,7 @@ final class Model {
     /** To each place the first of the cheapest rows: what one motion more makes better is taken, till none does. */
     String[] cheapestRows() {
         int places = last() + 1;
+        int[][] leads = leadsOfAll();
         String[] rows = new String[places];
         rows[Math.min(cursor, last())] = "";
         boolean better = true;
@@ -349,7 +401,7 @@ final class Model {
             better = false;
             for (int p = 0; p < places; p++) {
                 for (int motion = 0; rows[p] != null && motion < 7; motion++) {
-                    int q = Math.min(lead(motion, p), last());
+                    int q = leads[motion][p];
                     String row = rows[p] + motion;
                     if (rows[q] == null || isBetter(row, rows[q])) {
                         rows[q] = row;
