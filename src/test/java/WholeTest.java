@@ -6,7 +6,7 @@ public final class WholeTest {
     private static final int RUNS = 2000;
     private static final int CALLS = 512;
     private static final int[] ODD = {
-        Integer.MIN_VALUE, -61, -3, -2, -1, 0, 1, 7, 9, 10, 24, 25, 31, 32, 60, 61, 99, 100, 126, 127, 256, 1 << 16,
+        Integer.MIN_VALUE, -61, -3, -2, -1, 0, 1, 2, 4, 5, 7, 8, 9, 10, 24, 25, 31, 32, 60, 61, 99, 100, 126, 127, 256, 1 << 16,
         Integer.MAX_VALUE};
     private static final long[] ODD_ITEMS = {
         -1, 0, 31, 127, 128, 255, 256 + 'x', 32768, 65536 + 'w', (1L << 32) + 'd', Long.MIN_VALUE, Long.MAX_VALUE};
